@@ -1,10 +1,10 @@
 import java.util.ArrayList;
 import java.util.Arrays;
+import java.util.BitSet;
 import java.util.HashSet;
 import java.util.List;
 import java.util.NoSuchElementException;
 import java.util.Set;
-import java.util.TreeSet;
 
 /**
  * The document told a second time, as slowly and plainly as can be: texts are cut into tokens at once, laws are lists
@@ -13,7 +13,7 @@ import java.util.TreeSet;
 final class Oracle {
     record Token(String text, int place) { }
 
-    record Line(boolean may, Set<Integer> worlds) { }
+    record Line(boolean may, BitSet worlds) { }
 
     static final class Wish {
         String verb;
@@ -24,7 +24,7 @@ final class Oracle {
         Integer gone;
     }
 
-    record Ground(int wish, Set<Integer> worlds) { }
+    record Ground(int wish, BitSet worlds) { }
 
     record Case(int world, int told) { }
 
@@ -136,25 +136,25 @@ final class Oracle {
         return n;
     }
 
-    private Set<Integer> saying(int within) throws Fault {
-        Set<Integer> all = new TreeSet<>(term(within));
+    private BitSet saying(int within) throws Fault {
+        BitSet all = term(within);
         while (head().equals("or")) {
             at++;
-            all.addAll(term(within));
+            all.or(term(within));
         }
         return all;
     }
 
-    private Set<Integer> term(int within) throws Fault {
-        Set<Integer> all = new TreeSet<>(part(within));
+    private BitSet term(int within) throws Fault {
+        BitSet all = part(within);
         while (head().equals("and")) {
             at++;
-            all.retainAll(part(within));
+            all.and(part(within));
         }
         return all;
     }
 
-    private Set<Integer> part(int within) throws Fault {
+    private BitSet part(int within) throws Fault {
         String word = head();
         if (!word.matches("[a-g]|true|false|not|most|least|\\(")) {
             throw fault(1);
@@ -163,16 +163,16 @@ final class Oracle {
             throw fault(5);
         }
         at++;
-        Set<Integer> worlds = new TreeSet<>();
+        BitSet worlds = new BitSet();
         switch (word) {
-            case "true" -> worlds.addAll(everyWorld());
+            case "true" -> worlds.or(everyWorld());
             case "false" -> { }
             case "not" -> {
-                worlds.addAll(everyWorld());
-                worlds.removeAll(part(within + 1));
+                worlds.or(everyWorld());
+                worlds.andNot(part(within + 1));
             }
             case "(" -> {
-                worlds.addAll(saying(within + 1));
+                worlds.or(saying(within + 1));
                 want(")");
             }
             case "most", "least" -> {
@@ -190,14 +190,12 @@ final class Oracle {
                     at++;
                 } while (!head().equals(")"));
                 at++;
-                for (int world : everyWorld()) {
+                everyWorld().stream().forEach(world -> {
                     long so = atoms.stream().filter(x -> isSo(x, world)).count();
-                    if (word.equals("most") ? so <= n : so >= n) {
-                        worlds.add(world);
-                    }
-                }
+                    worlds.set(world, word.equals("most") ? so <= n : so >= n);
+                });
             }
-            default -> everyWorld().stream().filter(world -> isSo(word, world)).forEach(worlds::add);
+            default -> everyWorld().stream().filter(world -> isSo(word, world)).forEach(worlds::set);
         }
         return worlds;
     }
@@ -206,18 +204,16 @@ final class Oracle {
         return (world >> atom.charAt(0) - 'a') % 2 == 1;
     }
 
-    private static Set<Integer> everyWorld() {
-        Set<Integer> worlds = new TreeSet<>();
-        for (int world = 0; world < 128; world++) {
-            worlds.add(world);
-        }
+    private static BitSet everyWorld() {
+        BitSet worlds = new BitSet();
+        worlds.set(0, 128);
         return worlds;
     }
 
     private Line readLine() throws Fault {
         boolean may = head().equals("may");
         want(may ? "may" : "must");
-        Set<Integer> worlds = saying(0);
+        BitSet worlds = saying(0);
         want(";");
         return new Line(may, worlds);
     }
@@ -294,18 +290,18 @@ final class Oracle {
 
     // ---- laws
 
-    private static Set<Integer> allowedBy(List<Line> lines) {
-        Set<Integer> worlds = everyWorld();
+    private static BitSet allowedBy(List<Line> lines) {
+        BitSet worlds = everyWorld();
         for (Line line : lines) {
             if (!line.may()) {
-                worlds.retainAll(line.worlds());
+                worlds.and(line.worlds());
             }
         }
         return worlds;
     }
 
-    private static Set<Set<Integer>> mays(List<Line> lines) {
-        Set<Set<Integer>> sets = new HashSet<>();
+    private static Set<BitSet> mays(List<Line> lines) {
+        Set<BitSet> sets = new HashSet<>();
         for (Line line : lines) {
             if (line.may()) {
                 sets.add(line.worlds());
@@ -316,9 +312,7 @@ final class Oracle {
 
     private static int vain(List<Line> lines) {
         for (int i = 0; i < lines.size(); i++) {
-            Set<Integer> worlds = allowedBy(lines);
-            worlds.retainAll(lines.get(i).worlds());
-            if (lines.get(i).may() && worlds.isEmpty()) {
+            if (lines.get(i).may() && !allowedBy(lines).intersects(lines.get(i).worlds())) {
                 return i;
             }
         }
@@ -361,13 +355,13 @@ final class Oracle {
         if (world < 0 || world > 127) {
             return -1;
         }
-        return allowedBy(law).contains(world) ? 1 : 0;
+        return allowedBy(law).get(world) ? 1 : 0;
     }
 
     int rule(int what) {
         return switch (what) {
             case 0 -> law.size();
-            case 1 -> allowedBy(law).size();
+            case 1 -> allowedBy(law).cardinality();
             case 2 -> quarrel(law);
             case 3 -> quarrel(law) == 3 ? vain(law) : -1;
             default -> -1;
@@ -378,7 +372,7 @@ final class Oracle {
         if (line < 0 || line >= law.size() || what < 0 || what > 1) {
             return -1;
         }
-        return what == 0 ? (law.get(line).may() ? 1 : 0) : law.get(line).worlds().size();
+        return what == 0 ? (law.get(line).may() ? 1 : 0) : law.get(line).worlds().cardinality();
     }
 
     // ---- groups
@@ -485,7 +479,7 @@ final class Oracle {
         }
         try {
             cut();
-            Set<Integer> worlds = saying(0);
+            BitSet worlds = saying(0);
             want(";");
             want("");
             grounds.add(new Ground(wish, worlds));
@@ -497,7 +491,7 @@ final class Oracle {
 
     private int against(Ground ground) {
         for (int i = 0; i < cases.size(); i++) {
-            if (cases.get(i).told() <= seen() && !ground.worlds().contains(cases.get(i).world())) {
+            if (cases.get(i).told() <= seen() && !ground.worlds().get(cases.get(i).world())) {
                 return i;
             }
         }
@@ -529,9 +523,9 @@ final class Oracle {
             case 1:
                 return (int) members.stream().map(w -> houses[wishes.get(w).person]).distinct().count();
             case 2:
-                Set<Integer> before = allowedBy(law);
-                Set<Integer> after = allowedBy(by(firsts(groups, 1 << group)));
-                return (int) everyWorld().stream().filter(w -> before.contains(w) != after.contains(w)).count();
+                BitSet otherwise = allowedBy(law);
+                otherwise.xor(allowedBy(by(firsts(groups, 1 << group))));
+                return otherwise.cardinality();
             default:
                 return (int) grounds.stream().filter(g -> members.contains(g.wish()) && isHeld(g)).count();
         }
@@ -579,11 +573,8 @@ final class Oracle {
     private void choose(List<List<Integer>> groups, int left, int from, int set, List<Integer> found) {
         if (left == 0) {
             boolean least = !goes(groups, set);
-            for (int less = 0; less < 1 << 30 && least; less++) {
-                less = nextWithin(less, set);
-                if (less == set) {
-                    break;
-                }
+            for (int less = set; less != 0 && least;) {
+                less = less - 1 & set;
                 least = goes(groups, less);
             }
             if (least) {
@@ -594,18 +585,6 @@ final class Oracle {
         for (int g = from; g < groups.size(); g++) {
             choose(groups, left - 1, g + 1, set | 1 << g, found);
         }
-    }
-
-    /** The least subset of set that is not below from. */
-    private static int nextWithin(int from, int set) {
-        int best = set;
-        for (int sub = set; sub >= from; sub = sub - 1 & set) {
-            best = sub;
-            if (sub == 0) {
-                break;
-            }
-        }
-        return best;
     }
 
     int least(int n) {
@@ -673,7 +652,7 @@ final class Oracle {
             case 2:
                 return by(firsts(groups, set)).size();
             case 3:
-                return allowedBy(by(firsts(groups, set))).size();
+                return allowedBy(by(firsts(groups, set))).cardinality();
             default:
                 return -1;
         }
@@ -727,7 +706,14 @@ final class Oracle {
         return taken;
     }
 
+    private static final List<List<List<Integer>>> ORDERS = List.of(
+        ordersOf(0), ordersOf(1), ordersOf(2), ordersOf(3), ordersOf(4), ordersOf(5), ordersOf(6));
+
     private static List<List<Integer>> orders(int n) {
+        return ORDERS.get(n);
+    }
+
+    private static List<List<Integer>> ordersOf(int n) {
         List<List<Integer>> all = new ArrayList<>();
         List<Integer> digits = new ArrayList<>();
         for (int number = 0; number < 1 << 3 * n; number++) {
@@ -827,10 +813,10 @@ final class Oracle {
         if (set < 0 || what < 0 || what > 1) {
             return -1;
         }
-        Set<Integer> before = allowedBy(law);
-        Set<Integer> after = allowedBy(by(firsts(groups, set)));
+        BitSet before = allowedBy(law);
+        BitSet after = allowedBy(by(firsts(groups, set)));
         return (int) cases.stream().filter(c -> c.told() <= seen()).map(Case::world)
-            .filter(w -> what == 0 ? before.contains(w) && !after.contains(w) : !before.contains(w) && after.contains(w))
+            .filter(w -> what == 0 ? before.get(w) && !after.get(w) : !before.get(w) && after.get(w))
             .count();
     }
 
@@ -841,13 +827,13 @@ final class Oracle {
             return -1;
         }
         int world = cases.get(number).world();
-        boolean before = allowedBy(law).contains(world);
-        if (allowedBy(by(firsts(groups, set))).contains(world) == before) {
+        boolean before = allowedBy(law).get(world);
+        if (allowedBy(by(firsts(groups, set))).get(world) == before) {
             return -1;
         }
         for (int g = 0; g < groups.size(); g++) {
             if ((set >> g & 1) == 1
-                    && allowedBy(by(firsts(groups, set - (1 << g)))).contains(world) == before) {
+                    && allowedBy(by(firsts(groups, set - (1 << g)))).get(world) == before) {
                 return g;
             }
         }
