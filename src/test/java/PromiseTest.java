@@ -230,6 +230,18 @@ public final class PromiseTest {
         wish(room, 1, "strike 0;");
         due("PERSONS stay in their HOUSES", room.group(0, 1), 2);
         due("VOTES are gone", room.votes(3), 0);
+        for (int house = 0; house < 7; house++) {
+            due("VOTES of house " + house + " are gone", room.favour(house, 0), 0);
+        }
+        for (int turned = 0; turned < 7; turned++) {
+            yes(room, 7);
+            law(room, "must b;");
+            wish(room, 0, "strike 0;");
+            for (int house = 0; house < 4; house++) {
+                room.vote((turned + house) % 7, 0, house != 0);
+            }
+            due("three votes are no majority", room.votes(3), 0);
+        }
     }
 
     private static void fault(String text, int kind, int place) {
@@ -259,6 +271,7 @@ public final class PromiseTest {
         fault("Must a;", 1, 0);
         fault("must 3;", 1, 5);
         fault("musta;", 1, 0);
+        fault("mayz a;", 1, 0);
         fault("must a1;", 1, 6);
         fault("must abcdefgh;", 1, 5);
         fault("must abcdefghi;", 1, 5);
@@ -542,6 +555,10 @@ public final class PromiseTest {
         due("group(0, -1)", room.group(0, -1), -1);
         room.withdraw(0);
         due("hands without the first", room.group(0, 0), 2);
+        for (int person : new int[] {0, 63, 64, 98, 35, 99}) {
+            wish(room, person, "strike 0;");
+        }
+        due("hands of far persons", room.group(0, 0), 7);
         due("first", room.group(0, 4), 1);
         due("its grounds go with it", room.group(0, 3), 0);
     }
@@ -876,6 +893,11 @@ public final class PromiseTest {
         due("blamed(-1, 0)", room.blamed(-1, 0), -1);
         due("blamed(1, 4)", room.blamed(1, 4), -1);
         due("blamed(1, -1)", room.blamed(1, -1), -1);
+        WishRoom free = under("must a;", "strike 0;");
+        due("no case", free.blamed(0, 0), -1);
+        free.world(0);
+        due("allowed now", free.blamed(0, 0), 0);
+        due("no such case", free.blamed(1, 0), -1);
         room.days(1);
         room.world(3);
         due("told today", room.blamed(5, 0), 1);
