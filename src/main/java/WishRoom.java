@@ -1582,7 +1582,7 @@ public final class WishRoom {
     /** Looks for the LEAST SETS in order and counts them. */
     private static final class LeastSets {
         private final Groups groups;
-        /** The groups that go alone, and for each those that go with it, as bits. */
+        /** The groups that go alone, and for each those behind it that go with it, as bits. */
         private int alone;
         private final int[] partners;
         private int wanted;
@@ -1631,7 +1631,6 @@ public final class WishRoom {
                 for (int other = 0; other < one; other++) {
                     int pair = 1 << one | 1 << other;
                     if ((alone & pair) == pair && groups.goes(pair)) {
-                        partners[one] |= 1 << other;
                         partners[other] |= 1 << one;
                     }
                 }
