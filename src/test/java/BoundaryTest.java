@@ -2,7 +2,8 @@ import java.util.NoSuchElementException;
 
 /**
  * The boundary cases, sentence by sentence: each sentence of the document that names one (too small, too large, empty,
- * full, a wrap-around, a refused call) stands here by its words, with the promise through which it is seen.
+ * full, a wrap-around, a refused call) stands here by its words, with the promise through which it is seen; beside them some
+ * readings, which follow from it but are not its words.
  */
 public final class BoundaryTest {
     private static final int PROMISES = 32;
@@ -20,6 +21,7 @@ public final class BoundaryTest {
     private static int wrong = 0;
     private static int checks = 0;
     private static int sentences = 0;
+    private static int readings = 0;
     private static int checksAhead = 0;
     private static int promise = 0;
     private static String words = "";
@@ -71,7 +73,7 @@ public final class BoundaryTest {
         for (int number = 1; number <= PROMISES; number++) {
             due("promise " + number + " has a sentence", reached[number], true);
         }
-        System.out.println(sentences + " sentences, " + checks + " checks, " + wrong + " wrong");
+        System.out.println(sentences + " sentences, " + readings + " readings, " + checks + " checks, " + wrong + " wrong");
         if (wrong != 0) {
             System.exit(1);
         }
@@ -79,8 +81,23 @@ public final class BoundaryTest {
 
     // ---- helpers
 
-    /** A sentence without a check would be told as held though nothing was looked at. */
+    /** Words of the document; " .. " stands where some of them are left out. */
     private static void sentence(int number, String text) {
+        begin(number, text);
+        if (number != 0) {
+            sentences++;
+            reached[number] = true;
+        }
+    }
+
+    /** What follows from the document though it does not say so in these words. */
+    private static void reading(int number, String text) {
+        begin(number, text);
+        readings++;
+    }
+
+    /** A sentence without a check would be told as held though nothing was looked at. */
+    private static void begin(int number, String text) {
         if (promise != 0 && checks == checksAhead) {
             wrong++;
             System.out.println("promise " + promise + ", '" + words + "': nothing is checked");
@@ -88,10 +105,6 @@ public final class BoundaryTest {
         promise = number;
         words = text;
         checksAhead = checks;
-        if (number != 0) {
-            sentences++;
-            reached[number] = true;
-        }
     }
 
     private static void due(String call, long got, long want) {
@@ -237,7 +250,7 @@ public final class BoundaryTest {
         room = new WishRoom();
         due("NOW", room.count(0), 0);
         due("THE VIEW", room.count(1), 0);
-        sentence(1, "A new object has nothing of another one");
+        reading(1, "A new object has nothing of another one");
         WishRoom other = under("must a;", "strike 0;");
         other.house(5, 3);
         other.world(7);
@@ -485,7 +498,7 @@ public final class BoundaryTest {
         due("12 is no 1", lineWorlds("must most 12 of (a b);"), -104 - 16 * 10);
         due("1 2 is two NUMBERS", lineWorlds("must most 1 2 of (a b);"), -101 - 16 * 12);
         due("a sign is one alone", lineWorlds("must ((a));"), 64);
-        sentence(5, "a WORD is told by all its letters");
+        reading(5, "a WORD is told by all its letters");
         for (String word : new String[] {"must", "may"}) {
             otherLetters("law", "", word, " a;");
         }
@@ -652,7 +665,7 @@ public final class BoundaryTest {
                 depthOf(length, mix, inmost[mix % inmost.length]);
             }
         }
-        sentence(5, "they count only where they lie one within the other");
+        reading(5, "they count only where they lie one within the other");
         due("side by side", law(new WishRoom(), "must (a) and (b) and (c) and (d) and (e) and (f) and (g) and (a);"), 0);
         due("nots side by side", law(new WishRoom(), "must not a or not b or not c or not d or not e or not f or not g;"), 0);
         due("up and down", law(new WishRoom(), "must (((((a))))) and (((((b))))) and not not not not not c;"), 0);
@@ -749,7 +762,7 @@ public final class BoundaryTest {
             due("no HOUSE votes yes", room.favour(0, 0), 0);
             due("a WISH of an old number is not withdrawn", room.withdraw(0), true);
         }
-        sentence(5, "VOTES are gone: of each HOUSE for each GROUP");
+        reading(5, "VOTES are gone: of each HOUSE for each GROUP");
         for (int house = 0; house < 7; house++) {
             for (int group = 0; group < 6; group++) {
                 room = forbidding(6);
@@ -873,12 +886,12 @@ public final class BoundaryTest {
         tryTokens("wish", "keep 0; ", "", "-", "-", "-");
         tryTokens("wish", "change 0 to must a; ", "", "-", "-", "-");
         tryTokens("wish", "add may a; ", "", "-", "-", "-");
-        sentence(6, "FAULTS .. 3, 4, 5 in the LINE of a WISH");
+        reading(6, "FAULTS .. 3, 4, 5 in the LINE of a WISH");
         tryTokens("wish", "add must most 1 of (b ", "a|g|)", "-", "b", "-");
         tryTokens("wish", "add must most ", "0|00|007|7", "8|008|11|12|999", "-", "-");
         tryTokens("wish", "add must not not not not not not ", "-", "-", "-", PARTS);
         tryTokens("wish", "change 0 to may (((((( ", "-", "-", "-", PARTS);
-        sentence(6, "must, may of a 13th LINE is of a LAW's text: a WISH may add to 12");
+        reading(6, "must, may of a 13th LINE is of a LAW's text: a WISH may add to 12");
         room = under("may a;".repeat(12));
         due("add", wish(room, 0, "add must b;"), 0);
         due("LINES of the DRAFT", room.draft(0, 2), 13);
@@ -915,7 +928,7 @@ public final class BoundaryTest {
         room.view(1);
         due("THE VIEW ahead of it", room.count(3), 1);
         due("a WISH that THE VIEW still has is WITHDRAWN", room.withdraw(0), false);
-        sentence(7, "on a DAY (NOW), not on THE VIEW");
+        reading(7, "on a DAY (NOW), not on THE VIEW");
         room = under("must a;", "strike 0;");
         room.days(6);
         room.view(2);
@@ -925,7 +938,7 @@ public final class BoundaryTest {
         due("it is in THE VIEW of 5", room.look(0, 0), 0);
         room.view(6);
         due("it is not in THE VIEW of 6", room.look(0, 0), -1);
-        sentence(7, "a WISH that THE VIEW has not yet may be WITHDRAWN");
+        reading(7, "a WISH that THE VIEW has not yet may be WITHDRAWN");
         room = under("must a;");
         room.days(3);
         wish(room, 0, "strike 0;");
@@ -1154,7 +1167,7 @@ public final class BoundaryTest {
         tryTokens("ground", "(a) and not g ", "or|and|;", "-", "-", "-");
         sentence(13, "(anything behind .. a GROUND, too)");
         tryTokens("ground", "a; ", "", "-", "-", "-");
-        sentence(13, "FAULTS .. 3, 4, 5 in a GROUND");
+        reading(13, "FAULTS .. 3, 4, 5 in a GROUND");
         tryTokens("ground", "most 1 of (b ", "a|g|)", "-", "b", "-");
         tryTokens("ground", "least ", "0|00|007|7", "8|008|11|12|999", "-", "-");
         tryTokens("ground", "not not not not not not ", "-", "-", "-", PARTS);
@@ -1206,7 +1219,7 @@ public final class BoundaryTest {
         room.view(0);
         due("the 40th is behind THE VIEW", room.held(0, 0), 1);
         due("the 40th is behind THE VIEW", room.held(0, 1), -1);
-        sentence(14, "a GROUND of a WISH that is not in THE VIEW answers all the same");
+        reading(14, "a GROUND of a WISH that is not in THE VIEW answers all the same");
         room.days(1);
         room.withdraw(0);
         room.view(2);
@@ -1451,7 +1464,7 @@ public final class BoundaryTest {
     // ---- promises 18, 19
 
     private static void least() {
-        sentence(18, "LEAST SETS: sets of 1 to 3 GROUPS that do not GO TOGETHER, each less of them do");
+        sentence(18, "LEAST SETS: sets of 1 to 3 GROUPS that do not GO TOGETHER, each less of them .. do");
         WishRoom room = noThree();
         due("of one", room.least(1), 0);
         due("of two", room.least(2), 0);
@@ -1743,7 +1756,7 @@ public final class BoundaryTest {
         due("none is TAKEN", room.votes(1), 0);
         due("a no that is told", room.vote(0, 0, false), true);
         due("none is TAKEN", room.votes(1), 0);
-        sentence(22, "a vote may be told otherwise");
+        reading(22, "a vote may be told otherwise");
         yes(room, 5, 4);
         due("yes", room.votes(3), 32);
         due("yes again is one vote", room.vote(0, 5, true), true);
@@ -1766,7 +1779,7 @@ public final class BoundaryTest {
         }
         room.vote(3, 0, true);
         due("the fourth", room.votes(3), 1);
-        sentence(22, "VOTES are for the number of a GROUP, whichever GROUP has it");
+        reading(22, "VOTES are for the number of a GROUP, whichever GROUP has it");
         room = forbidding(3);
         yes(room, 0, 7);
         room.withdraw(0);
@@ -1879,7 +1892,7 @@ public final class BoundaryTest {
         yes(room, 0, 4);
         yes(room, 1, 4);
         due("the last ORDER of two", room.favour(0, 2), 010);
-        sentence(24, "votes for GROUPS that are not there count for nothing");
+        reading(24, "votes for GROUPS that are not there count for nothing");
         room = forbidding(1);
         for (int group = 0; group < 6; group++) {
             yes(room, group, 7);
@@ -1999,7 +2012,7 @@ public final class BoundaryTest {
         due("not in THE VIEW of 2", room.count(6), 0);
         room.view(3);
         due("in THE VIEW of 3", room.count(6), 1);
-        sentence(26, "a CASE of a WORLD that the LAW does not ALLOW is one");
+        reading(26, "a CASE of a WORLD that the LAW does not ALLOW is one");
         room = under("must false;");
         due("world(9)", room.world(9), 0);
     }
@@ -2218,7 +2231,7 @@ public final class BoundaryTest {
         room.view(0);
         due("NOW", room.count(0), 9999);
         due("THE VIEW", room.count(1), 0);
-        sentence(32, "2: WISHES, 3: those in THE VIEW, 4: GROUPS, 8: WITHDRAWN");
+        sentence(32, "2: WISHES, 3: those in THE VIEW, 4: GROUPS .. 8: WITHDRAWN");
         room = forbidding(30);
         int[] full = {30, 30, 30, 0};
         countWishes(room, full);
@@ -2311,7 +2324,7 @@ public final class BoundaryTest {
     }
 
     private static void askedAgain() {
-        sentence(18, "what was asked under another LAW leaves no trace");
+        reading(18, "what was asked under another LAW leaves no trace");
         for (int from = 0; from <= 7; from++) {
             for (int to = 0; to <= 7; to++) {
                 WishRoom room = new WishRoom();
@@ -2321,7 +2334,7 @@ public final class BoundaryTest {
                 askOfSeven(room, to);
             }
         }
-        sentence(23, "what was asked of other VOTES leaves no trace");
+        reading(23, "what was asked of other VOTES leaves no trace");
         WishRoom room = noThree();
         for (int group = 0; group < 6; group++) {
             yes(room, group, 4);
@@ -2393,7 +2406,7 @@ public final class BoundaryTest {
     }
 
     private static void askedLess() {
-        sentence(12, "an answer hangs on what was told, not on what was asked");
+        reading(12, "an answer hangs on what was told, not on what was asked");
         Change[] changes = {
             room -> law(room, "must a; may b;"), room -> law(room, "must"), room -> wish(room, 5, "change 2 to must e;"),
             room -> wish(room, 5, "drop 1;"), room -> room.withdraw(0), room -> room.withdraw(7), room -> room.withdraw(99),
