@@ -825,32 +825,31 @@ public final class WishRoom {
             takeSign(SEMICOLON);
         }
 
+        /** TERMS are met here too, not in a method of their own: that keeps the calls that stand open few. */
         private void saying(int depth) {
-            term(depth);
-            long sumLow = low;
-            long sumHigh = high;
-            for (int i = 0; i < SIGN_LIMIT && fault == 0 && tape.isWord("or"); i++) {
-                tape.step();
-                term(depth);
-                sumLow |= low;
-                sumHigh |= high;
+            long sumLow = 0L;
+            long sumHigh = 0L;
+            long termLow = -1L;
+            long termHigh = -1L;
+            boolean more = true;
+            for (int i = 0; i < SIGN_LIMIT && more; i++) {
+                part(depth);
+                termLow &= low;
+                termHigh &= high;
+                boolean sameTerm = fault == 0 && tape.isWord("and");
+                if (!sameTerm) {
+                    sumLow |= termLow;
+                    sumHigh |= termHigh;
+                    termLow = -1L;
+                    termHigh = -1L;
+                }
+                more = sameTerm || fault == 0 && tape.isWord("or");
+                if (more) {
+                    tape.step();
+                }
             }
             low = sumLow;
             high = sumHigh;
-        }
-
-        private void term(int depth) {
-            part(depth);
-            long meetLow = low;
-            long meetHigh = high;
-            for (int i = 0; i < SIGN_LIMIT && fault == 0 && tape.isWord("and"); i++) {
-                tape.step();
-                part(depth);
-                meetLow &= low;
-                meetHigh &= high;
-            }
-            low = meetLow;
-            high = meetHigh;
         }
 
         private void part(int depth) {
