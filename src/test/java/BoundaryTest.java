@@ -5,7 +5,7 @@ import java.util.NoSuchElementException;
  * full, a wrap-around, a refused call) stands here by its words, with the promise through which it is seen; beside them some
  * readings, which follow from it but are not its words.
  */
-public final class BoundaryTest {
+public final class BoundaryTest extends Letters {
     private static final int PROMISES = 32;
     private static final int LEAST_INT = Integer.MIN_VALUE;
     private static final int GREATEST_INT = Integer.MAX_VALUE;
@@ -117,31 +117,6 @@ public final class BoundaryTest {
 
     private static void due(String call, boolean got, boolean want) {
         due(call, got ? 1 : 0, want ? 1 : 0);
-    }
-
-    private static void tell(WishRoom room, String text) {
-        for (int from = 0; from < text.length(); from += 24) {
-            long[] parts = new long[3];
-            for (int i = 0; i < 24 && from + i < text.length(); i++) {
-                parts[i / 8] |= (long) text.charAt(from + i) << 56 - 8 * (i % 8);
-            }
-            room.feed(parts[0], parts[1], parts[2]);
-        }
-    }
-
-    private static int law(WishRoom room, String text) {
-        tell(room, text);
-        return room.law();
-    }
-
-    private static int wish(WishRoom room, int person, String text) {
-        tell(room, text);
-        return room.wish(person);
-    }
-
-    private static int ground(WishRoom room, int wish, String text) {
-        tell(room, text);
-        return room.ground(wish);
     }
 
     private static WishRoom under(String law, String... wishes) {

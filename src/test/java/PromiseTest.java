@@ -1,7 +1,7 @@
 import java.util.NoSuchElementException;
 
 /** One method for each promise of the document: ordinary calls, the edges that it names, and wrong calls. */
-public final class PromiseTest {
+public final class PromiseTest extends Letters {
     private static final int LEAST_INT = Integer.MIN_VALUE;
     private static final int GREATEST_INT = Integer.MAX_VALUE;
     private static int wrong = 0;
@@ -63,31 +63,6 @@ public final class PromiseTest {
 
     private static void due(String call, boolean got, boolean want) {
         due(call, got ? 1 : 0, want ? 1 : 0);
-    }
-
-    private static void tell(WishRoom room, String text) {
-        for (int from = 0; from < text.length(); from += 24) {
-            long[] parts = new long[3];
-            for (int i = 0; i < 24 && from + i < text.length(); i++) {
-                parts[i / 8] |= (long) text.charAt(from + i) << 56 - 8 * (i % 8);
-            }
-            room.feed(parts[0], parts[1], parts[2]);
-        }
-    }
-
-    private static int law(WishRoom room, String text) {
-        tell(room, text);
-        return room.law();
-    }
-
-    private static int wish(WishRoom room, int person, String text) {
-        tell(room, text);
-        return room.wish(person);
-    }
-
-    private static int ground(WishRoom room, int wish, String text) {
-        tell(room, text);
-        return room.ground(wish);
     }
 
     private static WishRoom under(String law, String... wishes) {
