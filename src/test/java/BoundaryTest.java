@@ -1,3 +1,6 @@
+import java.io.IOException;
+import java.nio.file.Files;
+import java.nio.file.Path;
 import java.util.NoSuchElementException;
 
 /**
@@ -6,6 +9,7 @@ import java.util.NoSuchElementException;
  * readings, which follow from it but are not its words.
  */
 public final class BoundaryTest extends Letters {
+    private static final Path DOCUMENT = Path.of("..", "shared", "DOC.md");
     private static final int PROMISES = 32;
     private static final int LEAST_INT = Integer.MIN_VALUE;
     private static final int GREATEST_INT = Integer.MAX_VALUE;
@@ -25,9 +29,11 @@ public final class BoundaryTest extends Letters {
     private static int checksAhead = 0;
     private static int promise = 0;
     private static String words = "";
+    private static String document = "";
     private static final boolean[] reached = new boolean[PROMISES + 1];
 
-    public static void main(String[] args) {
+    public static void main(String[] args) throws IOException {
+        document = Files.readString(DOCUMENT).replaceAll("\\s+", " ");
         newObject();
         days();
         view();
@@ -87,6 +93,12 @@ public final class BoundaryTest extends Letters {
         if (number != 0) {
             sentences++;
             reached[number] = true;
+        }
+        for (String piece : text.split(" \\.\\. ")) {
+            if (!document.contains(piece)) {
+                wrong++;
+                System.out.println("promise " + number + ": these are no words of the document: '" + piece + "'");
+            }
         }
     }
 
@@ -681,7 +693,7 @@ public final class BoundaryTest extends Letters {
         }
         due("12 and anything else", law(new WishRoom(), "must a;".repeat(12) + ";"), 1 + 16 * 84);
         due("12 and blanks", law(new WishRoom(), "must a;".repeat(12) + " \n "), 0);
-        sentence(5, "LINE: must SAYING ;   or   may SAYING ;");
+        sentence(5, "LINE: must SAYING ; or may SAYING ;");
         WishRoom room = under("must a and b and c and d and e and f and g; may false; may true; must true;");
         int[] kinds = {0, 1, 1, 0};
         int[] worlds = {1, 0, 128, 128};
@@ -787,7 +799,7 @@ public final class BoundaryTest extends Letters {
         }
         due("a FAULT is not looked at then", wish(room, 100, "strike 9;"), -1);
         due("WISHES", room.count(2), 2);
-        sentence(6, "WISHES, 30 at most; -1: .. 30 are there (the TAPE is empty)");
+        sentence(6, "WISHES, 30 at most .. -1: .. 30 are there (the TAPE is empty)");
         room = under("must a;");
         for (int i = 0; i < 30; i++) {
             due("wish " + i, wish(room, 0, "add must b;"), 0);
@@ -828,7 +840,7 @@ public final class BoundaryTest extends Letters {
 
     private static void wishGrammar() {
         String great = "7|007|8|008|11|12|999";
-        sentence(6, "WISH: strike N ;   or   keep N ;   or   change N to LINE   or   add LINE");
+        sentence(6, "WISH: strike N ; or keep N ; or change N to LINE or add LINE");
         tryTokens("wish", "", "strike|keep|change|add", "-", "-", "-");
         tryTokens("wish", "strike 0 ", ";", "-", "-", "-");
         tryTokens("wish", "keep 1 ", ";", "-", "-", "-");
@@ -837,7 +849,7 @@ public final class BoundaryTest extends Letters {
         tryTokens("wish", "add ", "must|may", "-", "-", "-");
         tryTokens("wish", "add may ", PARTS, "-", "-", "-");
         tryTokens("wish", "change 1 to must a ", "or|and|;", "-", "-", "-");
-        sentence(6, "N: a LINE of the LAW (from 0); 4 .. (a LINE that is none, too)");
+        sentence(6, "N: a LINE of the LAW (from 0) .. 4 a NUMBER that is not as told (a LINE that is none, too)");
         for (String verb : new String[] {"strike ", "keep ", "change "}) {
             tryTokens("wish", verb, "0|00", great, "-", "-");
             WishRoom room = under("may a;".repeat(12));
@@ -887,7 +899,7 @@ public final class BoundaryTest extends Letters {
         due("WITHDRAWN", room.count(8), 0);
         due("withdraw(0)", room.withdraw(0), true);
         due("WITHDRAWN", room.count(8), 1);
-        sentence(7, "false: .. it is; one may be WITHDRAWN on a DAY (NOW), once");
+        sentence(7, "false: .. it is .. one may be WITHDRAWN on a DAY (NOW), once");
         due("withdraw(0) again", room.withdraw(0), false);
         room.days(1);
         due("withdraw(0) on another DAY", room.withdraw(0), false);
@@ -967,7 +979,7 @@ public final class BoundaryTest extends Letters {
     // ---- promise 9
 
     private static void allowed() {
-        sentence(9, "a WORLD is a number 0 to 127; NONE: none such");
+        sentence(9, "a WORLD is a number 0 to 127 .. NONE: none such");
         WishRoom room = under("must true;");
         due("allowed(0)", room.allowed(0), 1);
         due("allowed(127)", room.allowed(127), 1);
@@ -1118,7 +1130,7 @@ public final class BoundaryTest extends Letters {
         due("ground(30)", ground(room, 30, "a;"), -1);
         due("ground(29)", ground(room, 29, "a;"), 0);
         due("its WISH", room.held(0, 2), 29);
-        sentence(13, "GROUNDS, 20 at most; -1: .. 20 are there (the TAPE is empty)");
+        sentence(13, "GROUNDS, 20 at most .. -1: .. 20 are there (the TAPE is empty)");
         room = under("must a;", "strike 0;", "keep 0;");
         for (int i = 0; i < 20; i++) {
             due("ground " + i, ground(room, i % 2, "a;"), 0);
@@ -1177,7 +1189,7 @@ public final class BoundaryTest extends Letters {
         due("a CASE told on THE VIEW", room.held(0, 0), 1);
         due("not so in it", room.held(1, 0), 0);
         due("not so in it", room.held(1, 1), 0);
-        sentence(14, "and its SAYING is so in the WORLDS of all; what .. 1: the first CASE in THE VIEW in which it is not so");
+        sentence(14, "and its SAYING is so in the WORLDS of all .. 1: the first CASE in THE VIEW in which it is not so");
         room = under("must a;", "strike 0;");
         ground(room, 0, "g;");
         ground(room, 0, "not(" + worldText(127) + ");");
@@ -1387,7 +1399,7 @@ public final class BoundaryTest extends Letters {
     // ---- promise 17
 
     private static void together() {
-        sentence(17, "Whether a set of GROUPS (bits, 0 to 29) GO TOGETHER; NONE: no such set");
+        sentence(17, "Whether a set of GROUPS (bits, 0 to 29) GO TOGETHER .. NONE: no such set");
         WishRoom room = forbidding(30);
         due("none of them", room.together(0), 1);
         due("the first", room.together(1), 1);
@@ -1470,7 +1482,7 @@ public final class BoundaryTest extends Letters {
         }
         room = under("may false;", "add must b;", "strike 0;");
         due("a LAW that QUARRELS by kind 3", room.least(1), 0);
-        sentence(18, "of n (1 to 3); NONE: another n");
+        sentence(18, "of n (1 to 3) .. NONE: another n");
         due("least(0)", room.least(0), -1);
         due("least(4)", room.least(4), -1);
         for (int n : FAR) {
@@ -1967,7 +1979,7 @@ public final class BoundaryTest extends Letters {
         due("world(127)", room.world(127), 0);
         due("world(0)", room.world(0), 1);
         due("world(0) again is another CASE", room.world(0), 2);
-        sentence(26, "CASES, 40 at most; NONE: .. 40 are there");
+        sentence(26, "CASES, 40 at most .. NONE: .. 40 are there");
         for (int i = 3; i < 40; i++) {
             due("case " + i, room.world(i), i);
         }

@@ -1098,6 +1098,10 @@ public final class DocumentTest extends Letters {
         room = under("must a; must b; must c;");
         due("how many", room.fewest(0), 3);
         due("which", room.fewest(1), 7);
+        room = under("must true; may a; may b; must a and b and c;");
+        due("a LAW of fewer LINES", law(room, "must a and b; must b and c; must c and a;"), 0);
+        due("how many, none of an earlier LAW", room.fewest(0), 2);
+        due("which, none of an earlier LAW", room.fewest(1), 3);
         says("BESIDE: the GROUPS of one DRAFT that another one leaves out.");
         room = fourWeights();
         for (int a = 0; a < 4; a++) {
