@@ -827,11 +827,39 @@ public final class DocumentTest extends Letters {
         for (int set = 0; set < 16; set++) {
             due("together(" + set + ") under a LAW that QUARRELS", room.together(set), mended[set]);
         }
+        fullLaws();
         says("LEAST SETS: sets of 1 to 3 GROUPS that do not GO TOGETHER, each less of them (none: the LAW itself) do.");
         leastSets(noThree(), new int[0], new int[0], new int[] {7});
         leastSets(under("", "add must false;", "add must a;", "add must not a;", "add must b;", "add must not b or not a;"),
             new int[] {1}, new int[] {6}, new int[] {26});
         leastSets(under("must a; must not a;", "add must b;", "strike 0;"), new int[0], new int[0], new int[0]);
+    }
+
+    /** The LAW by all has 42 LINES, the most there can be: the last of them counts as the others do. */
+    private static void fullLaws() {
+        WishRoom musts = under("must true;".repeat(12));
+        WishRoom mays = under("may true;".repeat(12));
+        for (int world = 0; world < 29; world++) {
+            wishOften(musts, world, 1, "add must not (" + alone(world) + ");");
+            wishOften(mays, world, 1, "add may " + alone(world) + ";");
+        }
+        wishOften(musts, 29, 1, "add must not f and not g and not (c and d and e and (a or b));");
+        wishOften(mays, 29, 1, "add may false;");
+        int all = (1 << 30) - 1;
+        due("all but the last must", musts.together(all >> 1), 1);
+        due("all 42 musts", musts.together(all), 0);
+        due("all but the first wish", musts.together(all - 1), 1);
+        due("all but the last may", mays.together(all >> 1), 1);
+        due("all 42 mays", mays.together(all), 0);
+    }
+
+    /** A saying that is so in the one world. */
+    private static String alone(int world) {
+        StringBuilder text = new StringBuilder();
+        for (int atom = 0; atom < 7; atom++) {
+            text.append(atom == 0 ? "" : " and ").append(bit(world, atom) ? "" : "not ").append((char) ('a' + atom));
+        }
+        return text.toString();
     }
 
     private static void leastSets(WishRoom room, int[]... sets) {
@@ -1379,11 +1407,7 @@ public final class DocumentTest extends Letters {
     private static WishRoom thirty() {
         WishRoom room = under("");
         for (int world = 0; world < 30; world++) {
-            StringBuilder text = new StringBuilder("add must not (");
-            for (int atom = 0; atom < 7; atom++) {
-                text.append(atom == 0 ? "" : " and ").append(bit(world, atom) ? "" : "not ").append((char) ('a' + atom));
-            }
-            wishOften(room, world, 1, text + ");");
+            wishOften(room, world, 1, "add must not (" + alone(world) + ");");
         }
         return room;
     }
